@@ -12,10 +12,11 @@ public final class CrashTest {
     public static void main(String[] args) {
         int writes = writesOfTheRun();
         Check.due("writes of the run", writes > 60, true);
+        List<TreeMap<Integer, Integer>> states = states();
         for (int n = 0; n < writes; n++) {
             for (int w = 0; w < 4; w++) {
-                loseOnce(n, w);
-                loseTwice(n, w);
+                loseOnce(n, w, states);
+                loseTwice(n, w, states);
             }
         }
         Check.end();
@@ -55,28 +56,26 @@ public final class CrashTest {
         for (int n = 0; n < 1000; n++) {
             LoggedStore x = new LoggedStore();
             x.arm(n, 0);
-            if (Check.exceptionOf(() -> steps(x, 0)) == null) {
+            if (Check.exceptionOf(() -> steps(x, 0, STEPS)) == null) {
                 return n;
             }
         }
         return -1;
     }
 
-    private static void steps(LoggedStore x, int from) {
-        for (int step = from; step < STEPS; step++) {
+    private static void steps(LoggedStore x, int from, int end) {
+        for (int step = from; step < end; step++) {
             step(x, step);
         }
     }
 
-    /** What the store was before each step, by a run whose power holds. */
+    /** What the store is before each step, by runs whose power holds. */
     private static List<TreeMap<Integer, Integer>> states() {
         List<TreeMap<Integer, Integer>> states = new ArrayList<>();
-        LoggedStore x = new LoggedStore();
-        for (int step = 0; step <= STEPS; step++) {
+        for (int end = 0; end <= STEPS; end++) {
+            LoggedStore x = new LoggedStore();
+            steps(x, 0, end);
             states.add(numbersOf(x));
-            if (step < STEPS) {
-                step(x, step);
-            }
         }
         return states;
     }
@@ -97,22 +96,20 @@ public final class CrashTest {
         return STEPS;
     }
 
-    private static void loseOnce(int n, int w) {
-        List<TreeMap<Integer, Integer>> states = states();
+    private static void loseOnce(int n, int w, List<TreeMap<Integer, Integer>> states) {
         LoggedStore x = new LoggedStore();
         x.arm(n, w);
         int lost = goUntilLost(x, 0);
         Check.due("lost", lost < STEPS, true);
         Check.due("what came back, n " + n + " w " + w, numbersOf(x), states.get(lost));
-        steps(x, lost);
+        steps(x, lost, STEPS);
         Check.due("the end of the run, n " + n + " w " + w, numbersOf(x), states.get(STEPS));
         x.recover();
         Check.due("the end, recovered, n " + n + " w " + w, numbersOf(x), states.get(STEPS));
     }
 
     /** The second loss meets what the first one left on the disk. */
-    private static void loseTwice(int n, int w) {
-        List<TreeMap<Integer, Integer>> states = states();
+    private static void loseTwice(int n, int w, List<TreeMap<Integer, Integer>> states) {
         LoggedStore x = new LoggedStore();
         x.arm(n, w);
         int lost = goUntilLost(x, 0);
@@ -120,7 +117,7 @@ public final class CrashTest {
         int again = goUntilLost(x, lost);
         Check.due("what came back twice, n " + n + " w " + w, numbersOf(x), states.get(again));
         x.recover();
-        steps(x, again);
+        steps(x, again, STEPS);
         Check.due("the end of the run, n " + n + " w " + w, numbersOf(x), states.get(STEPS));
     }
 }

@@ -20,6 +20,8 @@ final class Model {
     private int armed = -1;
     private int torn = 0;
     private boolean down = false;
+    // Why the last recover() went no further through the log.
+    private String ended = "";
 
     Model() {
         disk[0] = withCheck(0, 1, 0, 0);
@@ -204,24 +206,55 @@ final class Model {
         logged = 0;
         TreeMap<Integer, Integer> last = store;
         List<int[]> kept = new ArrayList<>();
-        for (int k = 22; k < 96 && good(k) && disk[k][0] / 4 == epoch; k++) {
-            if (disk[k][0] % 4 != 3) {
-                kept.add(disk[k]);
-                continue;
-            }
-            if (disk[k][1] != kept.size() || disk[k][2] != version + 1) {
+        ended = "last";
+        for (int k = 22; k < 96; k++) {
+            String wrong = wrongWith(k, kept.size(), version);
+            if (!wrong.isEmpty()) {
+                ended = wrong;
                 break;
             }
-            TreeMap<Integer, Integer> own = new TreeMap<>();
-            for (int[] block : kept) {
-                own.put(block[1], block[0] % 4 == 1 ? (Integer) block[2] : null);
+            kept.add(disk[k]);
+            if (disk[k][0] % 4 == 3) {
+                last = with(last, writesOf(kept));
+                kept.clear();
+                version++;
+                logged = k - 21;
             }
-            last = with(last, own);
-            kept.clear();
-            version++;
-            logged = k - 21;
         }
         forgetHistory(last, version);
+    }
+
+    private String wrongWith(int k, int kept, int version) {
+        if (!good(k)) {
+            return "good";
+        }
+        if (disk[k][0] / 4 != epoch) {
+            return "epoch";
+        }
+        if (disk[k][0] % 4 == 3 && disk[k][1] != kept) {
+            return "number";
+        }
+        return disk[k][0] % 4 == 3 && disk[k][2] != version + 1 ? "version" : "";
+    }
+
+    private static TreeMap<Integer, Integer> writesOf(List<int[]> blocks) {
+        TreeMap<Integer, Integer> own = new TreeMap<>();
+        for (int[] block : blocks) {
+            if (block[0] % 4 == 1) {
+                own.put(block[1], block[2]);
+            } else if (block[0] % 4 == 2) {
+                own.put(block[1], null);
+            }
+        }
+        return own;
+    }
+
+    String ended() {
+        return ended;
+    }
+
+    int epoch() {
+        return epoch;
     }
 
     private void forgetHistory(TreeMap<Integer, Integer> last, int version) {

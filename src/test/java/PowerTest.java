@@ -204,11 +204,7 @@ public final class PowerTest {
     /** The words that got in, with the old check behind them, make the whole block here. */
     private static void goodThoughLost() {
         int due = Check.checkWord(23, 4 * 2 + 3, 1, 2);
-        int inverse = 1;
-        for (int i = 0; i < 5; i++) {
-            inverse *= 2 - 1664525 * inverse;
-        }
-        int number = ((65536 * 5 + 6) ^ (1013904223 + 97 * 23) ^ due) * inverse;
+        int number = Forge.numberFor(23, 5, 6, due);
         LoggedStore x = new LoggedStore();
         Check.commitPairs(x, 3, 1, 6, number);
         Check.due("the check that a later block will need", x.word(23, 3), due);
