@@ -19,6 +19,7 @@ public final class RecoverTermsTest {
         aWrongEndIsTheEnd();
         anOldEndThatHasBecomeRight();
         aNumberThatWasNeverPutThere();
+        moreThan20KeysByAnOldEnd();
         theLogGoesOnBehindTheLastEndThatDidSomething();
         recoverTwice();
         Check.end();
@@ -321,6 +322,60 @@ public final class RecoverTermsTest {
         Check.due("recover()", x.recover(), 3);
         Check.due("number(5)", x.number(5), 777);
         Check.thrown("number(60)", Check.NONE, () -> x.number(60));
+    }
+
+    /** TO RECOVER names no limit; the calls behind it must at least throw nothing of their own. */
+    private static void moreThan20KeysByAnOldEnd() {
+        LoggedStore x = new LoggedStore();
+        Check.commitRange(x, 40, 19);
+        x.checkpoint();
+        Check.commitPairs(x, 40, 1);
+        int check = Forge.check(42, 15, 18, 4);
+        beginRemovals(x, 18);
+        x.put(0, 18, Forge.numberFor(42, 9, 18, check));
+        loseAndRecover(x, 19, 0);
+        beginRemovals(x, 18);
+        x.put(0, 18, 4);
+        loseAndRecover(x, 18, 3);
+        x.checkpoint();
+        beginRemovals(x, 20);
+        loseAndRecover(x, 20, 1);
+        Check.checkedBlock(x, "an end for 18 blocks", 42, 15, 18, 4);
+        beginSwap(x);
+        loseAndRecover(x, 20, 0);
+        Check.due("commit", Check.commitPairs(x, 41, 1), 3);
+        Check.due("recover()", x.recover(), 4);
+        Check.due("19 keys and the 18 of the old end", x.count(), 37);
+        Check.thrown("a commit would leave too many", Check.ARITHMETIC,
+                () -> Check.commitPairs(x, 41, 2));
+        Check.due("checkpoint()", x.checkpoint(), 4);
+        Check.due("recover() then", x.recover(), 4);
+        Check.due("left()", x.left(), 74);
+    }
+
+    private static void beginRemovals(LoggedStore x, int howMany) {
+        x.begin(0);
+        for (int key = 0; key < howMany; key++) {
+            x.put(0, key, 0);
+            x.remove(0, key);
+        }
+    }
+
+    /** Numbers for keys 0 to 19, and none for those that had one. */
+    private static void beginSwap(LoggedStore x) {
+        x.begin(0);
+        for (int key = 40; key < 59; key++) {
+            x.remove(0, key);
+        }
+        for (int key = 0; key < 20; key++) {
+            x.put(0, key, key);
+        }
+    }
+
+    private static void loseAndRecover(LoggedStore x, int n, int w) {
+        x.arm(n, w);
+        Check.thrown("a commit that is lost", Check.STATE, () -> x.commit(0));
+        x.recover();
     }
 
     private static void theLogGoesOnBehindTheLastEndThatDidSomething() {
